@@ -60,8 +60,8 @@ public final class IllTonight {
     private int fresh;
     private final Casting casting = new Casting();
     private final Casting trial = new Casting();
-    private final Nights nights = new Nights();
-    private final House house = new House();
+    private final Nights nights = new Nights(casting);
+    private final House house = new House(casting);
     private final Plans plans = new Plans();
     private final Season latest = new Season();
     private final int[] links = new int[SIDE];
@@ -1251,6 +1251,8 @@ public final class IllTonight {
         private final long[] rows = new long[(SIDE + 1) * SETS];
         private int purpose;
         private Casting cast;
+        /** How much of a row is used: a place for each set of the parts there are. */
+        private int span;
         /** The parts that are to be given, and those that each actor has already. */
         private int wanted;
         private final int[] held = new int[SIDE];
@@ -1258,6 +1260,11 @@ public final class IllTonight {
         int allNights;
         final int[] picked = new int[SIDE];
         int pickedIndex = NONE;
+
+        /** It has a casting from the start, so that there always is one to look at. */
+        Nights(Casting casting) {
+            cast = casting;
+        }
 
         static boolean isNone(long night) {
             return night >= NO_NIGHT;
@@ -1286,12 +1293,13 @@ public final class IllTonight {
         private void begin(Casting casting, int forWhat) {
             cast = casting;
             purpose = forWhat;
-            wanted = (1 << casting.parts) - 1;
+            span = 1 << casting.parts;
+            wanted = span - 1;
             Arrays.fill(held, 0);
         }
 
         private void open() {
-            Arrays.fill(rows, 0, SETS, NO_NIGHT);
+            Arrays.fill(rows, 0, span, NO_NIGHT);
             rows[0] = purpose == FOR_FIRST ? 0 : 1;
         }
 
@@ -1308,7 +1316,7 @@ public final class IllTonight {
 
         /** The actor plays nothing more: the ways stay as they are. */
         private void rest(int actor) {
-            System.arraycopy(rows, actor * SETS, rows, (actor + 1) * SETS, SETS);
+            System.arraycopy(rows, actor * SETS, rows, (actor + 1) * SETS, span);
         }
 
         private void play(int actor) {
@@ -1346,7 +1354,7 @@ public final class IllTonight {
             int from = actor * SETS;
             int to = from + SETS;
             int fixed = taken | ~wanted & SETS - 1;
-            // The next set that has nothing of "fixed": adding one carries over the bits that are filled in.
+            // On to the next higher set without any of "fixed": one is added behind filling those bits in.
             for (int set = 0; set <= wanted; set = (set | fixed) + 1 & ~fixed) {
                 long way = rows[from + set];
                 if (way < NO_NIGHT) {
@@ -1447,6 +1455,10 @@ public final class IllTonight {
         private int words;
         final boolean[] closed = new boolean[SETS];
         private int sets;
+
+        House(Casting casting) {
+            cast = casting;
+        }
 
         void closeAll(Casting casting) {
             begin(casting);

@@ -19,10 +19,10 @@ public final class ModelTest {
 
     private ModelTest(long seed) {
         random = new Random(seed);
-        int size = random.nextInt(12);
+        int size = random.nextInt(14);
         rich = random.nextInt(3) > 0;
-        actors = size == 0 ? 8 : size == 1 ? 6 : 1 + random.nextInt(5);
-        parts = size == 0 ? 3 : size == 1 ? 5 : size == 2 ? 7 : 1 + random.nextInt(4);
+        actors = size == 0 ? 8 : size == 1 ? 6 : size == 3 ? 4 : 1 + random.nextInt(5);
+        parts = size == 0 ? 3 : size == 1 ? 5 : size == 2 ? 7 : size == 3 ? 6 + random.nextInt(3) : 1 + random.nextInt(4);
     }
 
     public static void main(String[] args) {

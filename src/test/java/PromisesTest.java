@@ -32,6 +32,7 @@ public final class PromisesTest {
         clauses();
         nights();
         doubles();
+        eightParts();
         chains();
         chainWithTwoParts();
         nths();
@@ -310,6 +311,11 @@ public final class PromisesTest {
         due("row twice", x.row(), 2);
         due("the later counts", x.of(0, 0, 0), 2);
         due("forgot none", x.forgot(), 0);
+        // What stood behind the end of the tape is not read.
+        type(x, "\000\000\005");
+        x.end(2);
+        due("row cut short", x.row(), 0);
+        due("what was cut off", x.of(0, 0, 0), 2);
     }
 
     private static void laws() {
@@ -420,6 +426,17 @@ public final class PromisesTest {
         faultAt("cost 1\000", 6);
         faultAt("cost 1 & 2", 7);
         faultAt("costactor", 0);
+        faultAt("barsz", 0);
+        faultAt("zbars", 0);
+        faultAt("xost 1", 0);
+        faultAt("cost xnows", 5);
+        faultAt("cost xeek", 5);
+        faultAt("bars xf 1=1", 5);
+        faultAt("bars if 1=1 xr 1=1", 12);
+        faultAt(";".repeat(400), 0);
+        faultAt("bars" + " ".repeat(395) + "1", 399);
+        faultAt("bars" + " ".repeat(395) + ";", 400);
+        faultAt("cost 1" + "+".repeat(394), 7);
         IllTonight x = new IllTonight();
         due("letters and digits part by themselves", law(x, "cost1if not(knows<3or week=1)and part>0;bars"), 0);
     }
@@ -561,6 +578,33 @@ public final class PromisesTest {
         x.knows(1, 1, 1);
         due("two of three", x.night(2), 1);
         due("who takes the third", x.who(1), 1);
+    }
+
+    /** Four for eight parts, each with two that nobody else knows. */
+    private static void eightParts() {
+        IllTonight x = cast(4, 8);
+        x.terms(1, 1);
+        for (int a = 0; a < 4; a++) {
+            x.knows(a, a, 1);
+            x.knows(a, 7 - a, 1);
+        }
+        due("one night", x.night(2), 1);
+        for (int p = 0; p < 8; p++) {
+            due("who plays part " + p, x.who(p), p < 4 ? p : 7 - p);
+        }
+        due("open", x.shut(0), 0);
+        due("each is needed", x.closing(-1), 4);
+        x.knows(0, 7, 0);
+        due("nobody knows the last", x.shut(0), 1);
+        x.knows(0, 7, 1);
+        x.knows(1, 6, 0);
+        due("nobody knows the last but one", x.shut(0), 1);
+        x.knows(0, 6, 1);
+        due("three of one's own", x.shut(0), 1);
+        x.knows(1, 7, 1);
+        due("one given on", x.shut(0), 0);
+        due("who plays the last", x.who(7), 1);
+        due("who plays the last but one", x.who(6), 0);
     }
 
     private static void chains() {
@@ -727,6 +771,13 @@ public final class PromisesTest {
         due("no parts: season", x.season(1, 2), 0);
         due("no parts: week", x.week(1, 1), 0);
         due("no parts: gives", x.gives(0), -3);
+        IllTonight z = knowing(8, 1, 1);
+        due("all eight know it: most", z.most(), 7);
+        due("all eight know it: closing", z.closing(-1), 1);
+        due("all eight know it: all of them", z.closing(0), 255);
+        due("all eight know it: safe", z.safe(7), 1);
+        due("all eight know it: unsafe", z.unsafe(8), 255);
+        due("all eight know it: key", z.key(7), 1);
         IllTonight y = cast(0, 1);
         due("no actors: cost", y.night(0), -1);
         due("no actors: shut", y.shut(0), 1);
@@ -781,6 +832,12 @@ public final class PromisesTest {
             y.turn(a, 3, 100);
         }
         due("surely shut", y.odds(0), 10000000000000000L);
+        IllTonight z = knowing(2, 1, 1);
+        z.usual(0, 0);
+        z.turn(0, 3, 1);
+        due("hardly ever another", z.odds(1), 100);
+        z.turn(0, 3, 99);
+        due("hardly ever himself", z.odds(1), 9900);
         due("nothing to pay", y.odds(1), 0);
     }
 
@@ -845,6 +902,8 @@ public final class PromisesTest {
         due("worth all", x.worth(2, 0), 1000);
         due("worth some", x.worth(2, 1), 3);
         due("worth, not enough", x.worth(3, 0), -1);
+        x.turn(0, 0, 120);
+        due("worth asked first", x.worth(2, 1), 3);
         due("worth no lesson", x.worth(1, 3), -1);
         due("worth no lesson below", x.worth(1, -1), -1);
         due("worth k", x.worth(4, 0), -1);
@@ -1024,6 +1083,17 @@ public final class PromisesTest {
         due("images stay", x.of(0, 0, 0), 3);
         due("the other is not kept", x.back(0), -2);
         due("image over", x.image(1), 0);
+        IllTonight y = cast(1, 1);
+        y.image(0);
+        rule(y, "cost 4");
+        y.image(1);
+        y.back(0);
+        due("no law then", y.count(2), 0);
+        due("no cost then", y.of(0, 0, 2), 1);
+        rule(y, "cost 8");
+        due("the cost of another", y.of(0, 0, 2), 8);
+        y.back(1);
+        due("the cost of the one kept", y.of(0, 0, 2), 4);
     }
 
     private static void counts() {
