@@ -26,6 +26,7 @@ public final class PromisesTest {
         rows();
         laws();
         limitsOfLaws();
+        manyLaws();
         faults();
         broken();
         shortWays();
@@ -43,6 +44,7 @@ public final class PromisesTest {
         odds();
         lessons();
         worths();
+        worthAskedFirst();
         barredByLessons();
         seasons();
         seasonLaws();
@@ -377,6 +379,16 @@ public final class PromisesTest {
         due("many nots and noughts", law(x, "bars if " + "not ".repeat(60) + "0".repeat(100) + "=0"), 5);
     }
 
+    /** What was read ahead leaves nothing behind. */
+    private static void manyLaws() {
+        IllTonight x = cast(1, 1);
+        for (int i = 0; i < 30; i++) {
+            due("a long law with a fault", law(x, "cost 1" + "+1".repeat(49) + "; bars; x"), -6);
+        }
+        rule(x, "cost 7 if 1=1 and part=0 or actor=5");
+        due("a short one behind", x.of(0, 0, 2), 7);
+    }
+
     private static void faultAt(String text, int place) {
         IllTonight x = new IllTonight();
         due("law '" + text + "'", law(x, text), -6);
@@ -605,6 +617,20 @@ public final class PromisesTest {
         due("one given on", x.shut(0), 0);
         due("who plays the last", x.who(7), 1);
         due("who plays the last but one", x.who(6), 0);
+        IllTonight y = knowing(8, 8, 1);
+        y.terms(1, 1);
+        for (int p = 0; p < 8; p++) {
+            for (int a = 0; a < 8; a++) {
+                y.knows(a, p, 0);
+            }
+            due("nobody knows part " + p, y.shut(0), 1);
+            due("one knows part " + p, y.knows(p, p, 1), 0);
+            due("open with one who knows part " + p, y.shut(0), 0);
+            due("shut without him", y.shut(1 << p), 1);
+            for (int a = 0; a < 8; a++) {
+                y.knows(a, p, 1);
+            }
+        }
     }
 
     private static void chains() {
@@ -902,8 +928,6 @@ public final class PromisesTest {
         due("worth all", x.worth(2, 0), 1000);
         due("worth some", x.worth(2, 1), 3);
         due("worth, not enough", x.worth(3, 0), -1);
-        x.turn(0, 0, 120);
-        due("worth asked first", x.worth(2, 1), 3);
         due("worth no lesson", x.worth(1, 3), -1);
         due("worth no lesson below", x.worth(1, -1), -1);
         due("worth k", x.worth(4, 0), -1);
@@ -915,6 +939,16 @@ public final class PromisesTest {
         due("the same lesson moved up", x.learn(0, 1), 1);
         x.ill(7);
         due("whoever is ill now", x.learn(0, 0), 5);
+    }
+
+    private static void worthAskedFirst() {
+        IllTonight x = cast(2, 1);
+        x.lesson(0, 0, 1, 3);
+        x.lesson(1, 0, 1, 5);
+        due("worth asked ahead of learn", x.worth(0, 0), 2);
+        x.knows(1, 0, 1);
+        due("worth asked once more", x.worth(0, 0), 0);
+        due("worth for one", x.worth(1, 0), 1000);
     }
 
     private static void barredByLessons() {
