@@ -1484,7 +1484,8 @@ public final class IllTonight {
         }
 
         private boolean opensFrom(int actor, int many) {
-            if (actor >= cast.actors) {
+            // Once all parts can be given, it does not matter who of the others is ill.
+            if (actor >= cast.actors || fills(actor)) {
                 return fills(actor);
             }
             rest(actor);
