@@ -1492,9 +1492,6 @@ public final class IllTonight {
             if (many > 0 && !opensFrom(actor + 1, many - 1)) {
                 return false;
             }
-            if (many >= cast.actors - actor) {
-                return true;
-            }
             play(actor);
             return opensFrom(actor + 1, many);
         }

@@ -79,7 +79,7 @@ abstract class Edges {
     }
 
     /** The call is none of those that status() tells of: whatever it answers, status and counts stay. */
-    static void told(IllTonight x, long want, String what, LongSupplier call) {
+    static void asks(IllTonight x, long want, String what, LongSupplier call) {
         int status = x.status();
         int[] counts = refusals(x);
         due(what, call.getAsLong(), want);
@@ -87,10 +87,10 @@ abstract class Edges {
         same("what is counted behind " + what, Arrays.toString(refusals(x)), Arrays.toString(counts));
     }
 
-    /** As told(), and nothing else changes either. */
-    static void asks(IllTonight x, long want, String what, LongSupplier call) {
+    /** As asks(), and nothing else changes either. */
+    static void leaves(IllTonight x, long want, String what, LongSupplier call) {
         String was = state(x);
-        told(x, want, what, call);
+        asks(x, want, what, call);
         same("what stands behind " + what, state(x), was);
     }
 
@@ -127,22 +127,24 @@ abstract class Edges {
         return counts;
     }
 
-    /** What can be seen of an object without changing it, of the first three ACTORS and PARTS. */
+    /**
+     * What can be seen of an object without changing it; what is known of the first three ACTORS and PARTS alone, since an
+     * object may be called 512 times at most.
+     */
     static String state(IllTonight x) {
         StringBuilder s = new StringBuilder();
         for (int what : new int[] {0, 1, 2, 3, 4, 5, 6, 12, 13, 14, 15}) {
             s.append(x.count(what)).append(' ');
         }
-        s.append(x.fault()).append(' ').append(x.forgot()).append(" of");
+        s.append(x.fault()).append(' ').append(x.forgot()).append(" knows ");
         for (int a = 0; a < Math.min(3, x.count(0)); a++) {
             for (int p = 0; p < Math.min(3, x.count(1)); p++) {
-                s.append(' ').append(x.of(a, p, 0)).append(x.of(a, p, 1)).append(x.of(a, p, 2));
+                s.append(x.of(a, p, 0));
             }
         }
-        s.append(" night ").append(x.night(0)).append(' ').append(x.night(2)).append(' ').append(x.changed());
-        s.append(' ').append(x.closing(-1)).append(' ').append(x.odds(0)).append(' ').append(x.odds(1));
-        s.append(' ').append(x.judge(0)).append(' ').append(x.judge(1)).append(' ').append(x.learn(1, 0));
-        s.append(" week ").append(x.week(0, 0)).append(' ').append(x.week(0, 1)).append(' ').append(x.learnt(0, 0));
+        s.append(" night ").append(x.night(0)).append(' ').append(x.changed()).append(' ').append(x.closing(-1));
+        s.append(' ').append(x.odds(1)).append(' ').append(x.judge(0)).append(' ').append(x.learn(1, 0));
+        s.append(" week ").append(x.week(0, 1)).append(' ').append(x.learnt(0, 0));
         return s.toString();
     }
 

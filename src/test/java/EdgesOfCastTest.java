@@ -295,8 +295,8 @@ public final class EdgesOfCastTest extends Edges {
     }
 
     static void p04_whatBeyondIsAWrongNumber() {
-        IllTonight x = cast(2, 1);
         for (int what : new int[] {-1, 4, LEAST, MOST}) {
+            IllTonight x = cast(2, 1);
             refused(x, -1, "turn what " + what, () -> x.turn(0, what, 100));
             refused(x, -1, "turn what " + what, () -> x.turn(0, what, 0));
         }
@@ -426,7 +426,8 @@ public final class EdgesOfCastTest extends Edges {
     static void p06_noSuchPart() {
         IllTonight x = cast(2, 3);
         noSuch(x, "usual of part", 0, 3, p -> x.usual(p, 0));
-        noSuch(x, "usual, nobody, of part", 0, 3, p -> x.usual(p, -1));
+        IllTonight y = cast(2, 3);
+        noSuch(y, "usual, nobody, of part", 0, 3, p -> y.usual(p, -1));
     }
 
     static void p06_noSuchActor() {
@@ -717,8 +718,8 @@ public final class EdgesOfCastTest extends Edges {
     }
 
     static void p10_whatBeyond() {
-        IllTonight x = cast(1, 1);
         for (int what : new int[] {-1, 3, LEAST, MOST}) {
+            IllTonight x = cast(1, 1);
             refused(x, -1, "term " + what, () -> x.terms(what, 0));
             refused(x, -1, "term " + what, () -> x.terms(what, 1));
         }

@@ -16,25 +16,25 @@ public final class EdgesOfLawsTest extends Edges {
         IllTonight x = new IllTonight();
         for (int i = 1; i <= 20; i++) {
             int bytes = 20 * i;
-            told(x, bytes, "feed " + i, () -> x.feed(0, 0, 0, 0, 0));
+            asks(x, bytes, "feed " + i, () -> x.feed(0, 0, 0, 0, 0));
         }
         due("bytes", x.count(6), 400);
     }
 
     static void p11_moreThan400() {
         IllTonight x = withTape(400);
-        asks(x, -1, "feed on 400", () -> x.feed(0, 0, 0, 0, 0));
+        leaves(x, -1, "feed on 400", () -> x.feed(0, 0, 0, 0, 0));
         due("bytes", x.count(6), 400);
     }
 
     static void p11_just400() {
         IllTonight x = withTape(380);
-        told(x, 400, "feed on 380", () -> x.feed(1, 2, 3, 4, 5));
+        asks(x, 400, "feed on 380", () -> x.feed(1, 2, 3, 4, 5));
     }
 
     static void p11_justMoreThan400() {
         IllTonight x = withTape(381);
-        asks(x, -1, "feed on 381", () -> x.feed(1, 2, 3, 4, 5));
+        leaves(x, -1, "feed on 381", () -> x.feed(1, 2, 3, 4, 5));
         due("bytes", x.count(6), 381);
     }
 
@@ -81,41 +81,41 @@ public final class EdgesOfLawsTest extends Edges {
 
     static void p12_noneOfThem() {
         IllTonight x = withTape(20);
-        told(x, 0, "end(0)", () -> x.end(0));
+        asks(x, 0, "end(0)", () -> x.end(0));
         due("bytes", x.count(6), 0);
     }
 
     static void p12_allOfThem() {
         IllTonight x = withTape(20);
-        asks(x, 20, "end(20)", () -> x.end(20));
+        leaves(x, 20, "end(20)", () -> x.end(20));
     }
 
     static void p12_moreThanThereAre() {
         IllTonight x = withTape(20);
-        asks(x, -1, "end(21)", () -> x.end(21));
-        asks(x, -1, "end, far beyond", () -> x.end(Integer.MAX_VALUE));
+        leaves(x, -1, "end(21)", () -> x.end(21));
+        leaves(x, -1, "end, far beyond", () -> x.end(Integer.MAX_VALUE));
         due("bytes", x.count(6), 20);
     }
 
     static void p12_below0() {
         IllTonight x = withTape(20);
-        asks(x, -1, "end(-1)", () -> x.end(-1));
-        asks(x, -1, "end, far below", () -> x.end(Integer.MIN_VALUE));
+        leaves(x, -1, "end(-1)", () -> x.end(-1));
+        leaves(x, -1, "end, far below", () -> x.end(Integer.MIN_VALUE));
         due("bytes", x.count(6), 20);
     }
 
     static void p12_fullTape() {
         IllTonight x = withTape(400);
-        asks(x, -1, "end(401)", () -> x.end(401));
-        asks(x, 400, "end(400)", () -> x.end(400));
-        told(x, 399, "end(399)", () -> x.end(399));
-        asks(x, -1, "end(400) of 399", () -> x.end(400));
+        leaves(x, -1, "end(401)", () -> x.end(401));
+        leaves(x, 400, "end(400)", () -> x.end(400));
+        asks(x, 399, "end(399)", () -> x.end(399));
+        leaves(x, -1, "end(400) of 399", () -> x.end(400));
     }
 
     static void p12_emptyTape() {
         IllTonight x = new IllTonight();
-        asks(x, 0, "end(0)", () -> x.end(0));
-        asks(x, -1, "end(1)", () -> x.end(1));
+        leaves(x, 0, "end(0)", () -> x.end(0));
+        leaves(x, -1, "end(1)", () -> x.end(1));
     }
 
     static void p12_whatIsCutOffIsGone() {
@@ -199,6 +199,17 @@ public final class EdgesOfLawsTest extends Edges {
         due("forgot", x.forgot(), 1);
         due("the last of them", x.of(4, 0, 0), 2);
         due("the one ahead of the last", x.of(3, 0, 0), 1);
+    }
+
+    static void p13_bytesBehindTheEndAreNotRead() {
+        for (int end = 1; end <= 2; end++) {
+            IllTonight x = knowing(1, 1, 7);
+            type(x, "\0\0\5");
+            x.end(end);
+            taken(x, 0, "cut to " + end, x::row);
+            due("forgot", x.forgot(), 1);
+            due("knows", x.of(0, 0, 0), 7);
+        }
     }
 
     static void p13_actorsThereAndNotThere() {
@@ -389,6 +400,47 @@ public final class EdgesOfLawsTest extends Edges {
         due("at the end", y.fault(), 400);
         due("a fault that is the last byte", law(y, " ".repeat(395) + "bars5"), -6);
         due("at it", y.fault(), 399);
+    }
+
+    static void p15_400Tokens() {
+        faultAt(0, ";".repeat(400));
+        faultAt(4, "bars" + "!".repeat(396));
+        faultAt(13, "cost " + "[".repeat(395));
+        faultAt(6, "cost [" + "]".repeat(394));
+        faultAt(399, "cost" + " ".repeat(395) + ";");
+    }
+
+    static void p15_bytesBehindTheEndAreNotRead() {
+        IllTonight x = cast(1, 1);
+        type(x, "cost 123");
+        x.end(7);
+        due("law", x.law(), 0);
+        x.force(0);
+        due("cost", x.of(0, 0, 2), 12);
+        type(x, "bars if 1=1 or 1=2");
+        x.end(11);
+        due("law cut behind a number", x.law(), 1);
+        type(x, "lets;lets");
+        x.end(5);
+        due("law cut behind a ;", x.law(), -6);
+        due("fault", x.fault(), 5);
+    }
+
+    static void p15_whatWasReadAheadLeavesNothing() {
+        IllTonight x = knowing(1, 1, 1);
+        String longOne = "cost 1" + "+1".repeat(49) + ";bars;fades 9";
+        due("a fault behind many steps", law(x, longOne), -6);
+        due("as many steps once more", law(x, "cost 1" + "+1".repeat(49) + ";bars"), 0);
+        due("twelve clauses", law(x, "bars;".repeat(11) + "bars"), 1);
+        due("twelve clauses once more", law(x, "bars;".repeat(11) + "bars"), 2);
+        due("one clause", law(x, "fades 2 if 1=1 and part=0 or actor=5"), 3);
+        x.force(3);
+        due("no cost of those ahead", x.of(0, 0, 2), 1);
+        due("no bars of those ahead", x.of(0, 0, 1), 1);
+        due("its own", x.of(0, 0, 3), 2);
+        String eight = "[".repeat(8) + "1" + "]".repeat(8);
+        due("a fault eight brackets deep", law(x, "cost " + "[".repeat(8) + "x"), -6);
+        due("eight brackets once more", law(x, "cost " + eight), 4);
     }
 
     static void p16_noneAheadOfAny() {
@@ -721,6 +773,29 @@ public final class EdgesOfLawsTest extends Edges {
         for (String word : new String[] {"cost", "fades", "bars", "lets", "if", "or", "and", "not", "scenes", "frail", "need"}) {
             faultAt(5, "cost " + word);
         }
+    }
+
+    static void p15_eachLetterCounts() {
+        for (String word : new String[] {"cost", "fades", "bars", "lets"}) {
+            for (int i = 0; i < word.length(); i++) {
+                faultAt(0, word.substring(0, i) + "q" + word.substring(i + 1));
+            }
+        }
+        for (String word : new String[] {"actor", "part", "height", "coat", "wears", "voice", "song", "knows", "usual", "week"}) {
+            for (int i = 0; i < word.length(); i++) {
+                faultAt(5, "cost " + word.substring(0, i) + "q" + word.substring(i + 1));
+            }
+        }
+        faultAt(5, "bars qf 1=1");
+        faultAt(5, "bars iq 1=1");
+        faultAt(12, "bars if 1=1 qr 1=1");
+        faultAt(12, "bars if 1=1 oq 1=1");
+        faultAt(12, "bars if 1=1 qnd 1=1");
+        faultAt(12, "bars if 1=1 aqd 1=1");
+        faultAt(12, "bars if 1=1 anq 1=1");
+        faultAt(8, "bars if qot 1=1");
+        faultAt(8, "bars if nqt 1=1");
+        faultAt(8, "bars if noq 1=1");
     }
 
     static void p15_fiftyPieces() {

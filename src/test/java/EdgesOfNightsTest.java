@@ -176,8 +176,8 @@ public final class EdgesOfNightsTest extends Edges {
     static void p18_noRefusal() {
         IllTonight x = cast(0, 1);
         x.actor(0, 0, 0, 0);
-        told(x, -1, "shut", () -> x.night(0));
-        told(x, -1, "what beyond", () -> x.night(3));
+        asks(x, -1, "shut", () -> x.night(0));
+        asks(x, -1, "what beyond", () -> x.night(3));
         due("status stays", x.status(), -1);
     }
 
@@ -437,6 +437,41 @@ public final class EdgesOfNightsTest extends Edges {
         nthIs(x, 4, -1, -1);
     }
 
+    static void p22_threeForTwoWithDoubles() {
+        IllTonight x = knowing(2, 3, 1);
+        x.terms(1, 1);
+        nthIs(x, 0, 0, 0, 1);
+        nthIs(x, 1, 0, 1, 0);
+        nthIs(x, 2, 0, 1, 1);
+        nthIs(x, 3, 1, 0, 0);
+        nthIs(x, 4, 1, 0, 1);
+        nthIs(x, 5, 1, 1, 0);
+        nthIs(x, 6, -1, -1, -1);
+    }
+
+    static void p22_whatCostsNothing() {
+        IllTonight x = knowing(2, 2, 1);
+        rule(x, "cost 0");
+        nthIs(x, 0, 0, 1);
+        nthIs(x, 1, 1, 0);
+        nthIs(x, 2, -1, -1);
+        nthIs(x, 3, -1, -1);
+        x.terms(1, 1);
+        nthIs(x, 1, 0, 1);
+        nthIs(x, 2, 1, 0);
+        nthIs(x, 4, -1, -1);
+    }
+
+    static void p22_notWhoIsIll() {
+        IllTonight x = knowing(3, 2, 1);
+        x.ill(2);
+        nthIs(x, 0, 0, 2);
+        nthIs(x, 1, 2, 0);
+        nthIs(x, 2, -1, -1);
+        x.ill(7);
+        nthIs(x, 0, -1, -1);
+    }
+
     static void p22_theLastOfTheMost() {
         IllTonight x = knowing(8, 8, 1);
         x.terms(1, 1);
@@ -522,9 +557,9 @@ public final class EdgesOfNightsTest extends Edges {
         for (int i = 0; i < 8; i++) {
             x.gives(0);
         }
-        told(x, 8, "clear", x::clear);
+        asks(x, 8, "clear", x::clear);
         due("told then", x.count(4), 0);
-        told(x, 0, "clear again", x::clear);
+        asks(x, 0, "clear again", x::clear);
         taken(x, 1, "from the first part again", () -> x.gives(0));
     }
 
@@ -532,7 +567,7 @@ public final class EdgesOfNightsTest extends Edges {
         IllTonight x = cast(1, 1);
         x.gives(0);
         x.gives(0);
-        told(x, 1, "clear", x::clear);
+        asks(x, 1, "clear", x::clear);
         due("status", x.status(), -3);
     }
 
@@ -704,6 +739,64 @@ public final class EdgesOfNightsTest extends Edges {
         asks(x, 0, "nobody, though all are told ill", () -> x.shut(0));
     }
 
+    static void p26_doublesTwoAtMost() {
+        IllTonight x = knowing(4, 4, 1);
+        x.terms(1, 1);
+        for (int set = 0; set < 16; set++) {
+            int ill = set;
+            asks(x, Integer.bitCount(ill) > 2 ? 1 : 0, "shut by " + ill, () -> x.shut(ill));
+        }
+        x.terms(1, 0);
+        asks(x, 0, "nobody ill, no doubles", () -> x.shut(0));
+        asks(x, 1, "one ill, no doubles", () -> x.shut(8));
+    }
+
+    static void p26_doublesWithASceneInCommon() {
+        IllTonight x = knowing(2, 2, 1);
+        x.terms(1, 1);
+        asks(x, 0, "no scene in common", () -> x.shut(1));
+        x.alter(1, 2, 129);
+        asks(x, 1, "a scene in common", () -> x.shut(1));
+        x.alter(0, 2, 0);
+        asks(x, 0, "no scene at all", () -> x.shut(1));
+    }
+
+    static void p26_eachOfEightParts() {
+        for (int p = 0; p < 8; p++) {
+            IllTonight x = knowing(8, 8, 1);
+            x.terms(1, 1);
+            for (int a = 0; a < 8; a++) {
+                x.knows(a, p, 0);
+            }
+            asks(x, 1, "nobody knows part " + p, () -> x.shut(0));
+            int one = p;
+            x.knows(one, p, 1);
+            asks(x, 0, "one knows part " + p, () -> x.shut(0));
+            asks(x, 1, "one knows part " + p + ", and is ill", () -> x.shut(1 << one));
+            asks(x, 0, "three others and he are left", () -> x.shut(255 ^ (1 << one | 1 << (one + 1) % 8 | 1 << (one + 2) % 8
+                | 1 << (one + 3) % 8)));
+        }
+    }
+
+    /** ACTOR 0 alone knows these two PARTS: he must have both, which he may if they have no SCENE in common. */
+    static void p26_pairsOfEachTwoParts() {
+        for (int a = 0; a < 8; a++) {
+            for (int b = 0; b < 8; b++) {
+                if (a != b) {
+                    IllTonight x = knowing(8, 8, 1);
+                    x.terms(1, 1);
+                    for (int i = 1; i < 8; i++) {
+                        x.knows(i, a, 0);
+                        x.knows(i, b, 0);
+                    }
+                    due(a + " and " + b + " by one", x.shut(0), 0);
+                    x.alter(a, 2, 255);
+                    due(a + " and " + b + " in common", x.shut(0), 1);
+                }
+            }
+        }
+    }
+
     // Promise 27: closing.
 
     private static void closingsAre(IllTonight x, int... sets) {
@@ -754,6 +847,15 @@ public final class EdgesOfNightsTest extends Edges {
         asks(x, 23, "the second", () -> x.closing(1));
         asks(x, 240, "the last", () -> x.closing(69));
         asks(x, -1, "behind the last", () -> x.closing(70));
+    }
+
+    static void p27_doubles() {
+        IllTonight x = known(3, by(0, 1), by(0, 2));
+        closingsAre(x, 3, 5, 6);
+        x.terms(1, 1);
+        closingsAre(x, 3, 5);
+        x.alter(0, 2, 3);
+        closingsAre(x, 3, 5, 6);
     }
 
     static void p27_toldIllDoNotMatter() {
@@ -1047,6 +1149,30 @@ public final class EdgesOfNightsTest extends Edges {
         x.turn(1, 3, 20);
         // 0 is well: 70 * 100 times 10; 0 is ill, 1 is not: 30 * 80 times 11; both are: 30 * 20.
         oddsAre(x, 600, 70000 + 26400);
+    }
+
+    static void p33_leastAndMostFrailOfTwo() {
+        IllTonight x = knowing(2, 1, 1);
+        x.usual(0, 0);
+        x.turn(0, 3, 1);
+        oddsAre(x, 0, 100);
+        x.turn(0, 3, 99);
+        oddsAre(x, 0, 9900);
+        x.turn(0, 3, 100);
+        oddsAre(x, 0, 10000);
+        x.turn(1, 3, 1);
+        oddsAre(x, 100, 9900);
+        x.turn(1, 3, 99);
+        oddsAre(x, 9900, 100);
+    }
+
+    static void p33_doubles() {
+        IllTonight x = knowing(2, 2, 1);
+        x.turn(0, 3, 10);
+        x.turn(1, 3, 20);
+        oddsAre(x, 10000 - 7200, 2 * 7200);
+        x.terms(1, 1);
+        oddsAre(x, 200, 2 * 9800);
     }
 
     static void p33_theMost() {

@@ -1,4 +1,5 @@
 import java.util.function.LongSupplier;
+import java.util.function.ToLongFunction;
 
 /** Promises 34 to 45: a test of its own for each sentence that names an edge. */
 public final class EdgesOfSeasonsTest extends Edges {
@@ -242,6 +243,24 @@ public final class EdgesOfSeasonsTest extends Edges {
         learns(x, 0, -1, -1, 0);
         x.lesson(0, 0, 5, 9);
         learns(x, 0, 9, 2, 2);
+    }
+
+    static void p36_barredByALesson() {
+        for (int p = 0; p < 3; p++) {
+            IllTonight x = knowing(3, 3, 1);
+            for (int a = 0; a < 3; a++) {
+                x.knows(a, p, a == p ? 1 : 0);
+            }
+            rule(x, "bars if knows>5");
+            x.lesson(p, p, 6, 1);
+            learns(x, 0, 0, 0, 1);
+            x.lesson(p, p, 5, 1);
+            learns(x, 0, 0, 0, 2);
+            worths(x, 0, 0, 0);
+            x.knows(p, p, 0);
+            learns(x, 0, 1, 2, 1);
+            worths(x, 0, 0, 1000);
+        }
     }
 
     static void p36_nobodyKnowsLessByALesson() {
@@ -1201,25 +1220,25 @@ public final class EdgesOfSeasonsTest extends Edges {
 
     static void p44_answersOfNoneAreNoRefusals() {
         IllTonight x = cast(2, 2);
-        told(x, -1, "end", () -> x.end(-1));
-        told(x, -1, "of", () -> x.of(2, 0, 0));
-        told(x, -1, "night", () -> x.night(3));
-        told(x, -1, "who", () -> x.who(2));
-        told(x, -1, "chain", () -> x.chain(2, 0));
-        told(x, -1, "nth", () -> x.nth(0, 2));
-        told(x, -1, "judge", () -> x.judge(2));
-        told(x, -1, "shut", () -> x.shut(4));
-        told(x, -1, "closing", () -> x.closing(-2));
-        told(x, -1, "safe", () -> x.safe(9));
-        told(x, -1, "unsafe", () -> x.unsafe(9));
-        told(x, -1, "missed", () -> x.missed(2));
-        told(x, -1, "key", () -> x.key(2));
-        told(x, -1, "odds", () -> x.odds(2));
-        told(x, -1, "learn", () -> x.learn(4, 0));
-        told(x, -1, "worth", () -> x.worth(4, 0));
-        told(x, -1, "week", () -> x.week(0, 0));
-        told(x, -1, "learnt", () -> x.learnt(0, 0));
-        told(x, -1, "count", () -> x.count(16));
+        asks(x, -1, "end", () -> x.end(-1));
+        asks(x, -1, "of", () -> x.of(2, 0, 0));
+        asks(x, -1, "night", () -> x.night(3));
+        asks(x, -1, "who", () -> x.who(2));
+        asks(x, -1, "chain", () -> x.chain(2, 0));
+        asks(x, -1, "nth", () -> x.nth(0, 2));
+        asks(x, -1, "judge", () -> x.judge(2));
+        asks(x, -1, "shut", () -> x.shut(4));
+        asks(x, -1, "closing", () -> x.closing(-2));
+        asks(x, -1, "safe", () -> x.safe(9));
+        asks(x, -1, "unsafe", () -> x.unsafe(9));
+        asks(x, -1, "missed", () -> x.missed(2));
+        asks(x, -1, "key", () -> x.key(2));
+        asks(x, -1, "odds", () -> x.odds(2));
+        asks(x, -1, "learn", () -> x.learn(4, 0));
+        asks(x, -1, "worth", () -> x.worth(4, 0));
+        asks(x, -1, "week", () -> x.week(0, 0));
+        asks(x, -1, "learnt", () -> x.learnt(0, 0));
+        asks(x, -1, "count", () -> x.count(16));
     }
 
     // Promise 45: status.
@@ -1280,46 +1299,93 @@ public final class EdgesOfSeasonsTest extends Edges {
         status(x, "lesson", -5, () -> x.lesson(0, 0, 1, 1), () -> x.image(1));
     }
 
-    static void p45_theOthersLeaveIt() {
+    private static void ask(Asked asked, IllTonight x) {
+        asked.of(x, 20, "feed", y -> y.feed(1, 2, 3, 4, 5));
+        asked.of(x, 0, "end", y -> y.end(0));
+        asked.of(x, 1, "clear", IllTonight::clear);
+        questions(asked, x);
+    }
+
+    private static void questions(Asked asked, IllTonight x) {
+        asked.of(x, 0, "forgot", IllTonight::forgot);
+        asked.of(x, -1, "fault", IllTonight::fault);
+        asked.of(x, 1, "can", y -> y.of(0, 0, 1));
+        asked.of(x, 2, "night", y -> y.night(0));
+        asked.of(x, 2, "nights", y -> y.night(1));
+        asked.of(x, 0, "who", y -> y.who(0));
+        asked.of(x, 3, "changed", IllTonight::changed);
+        asked.of(x, 1, "chain", y -> y.chain(0, -1));
+        asked.of(x, 1, "nth", y -> y.nth(1, 0));
+        asked.of(x, -1, "judge", y -> y.judge(0));
+        asked.of(x, 1, "shut", y -> y.shut(1));
+        asked.of(x, 2, "closing", y -> y.closing(1));
+        asked.of(x, 1, "safe", y -> y.safe(0));
+        asked.of(x, 1, "unsafe", y -> y.unsafe(1));
+        asked.of(x, 0, "most", IllTonight::most);
+        asked.of(x, 1000, "missed", y -> y.missed(0));
+        asked.of(x, 1, "key", y -> y.key(0));
+        asked.of(x, 0, "odds", y -> y.odds(0));
+        asked.of(x, 20000, "mean", y -> y.odds(1));
+        asked.of(x, 0, "learn", y -> y.learn(0, 0));
+        asked.of(x, 0, "worth", y -> y.worth(0, 0));
+        asked.of(x, 2, "week", y -> y.week(0, 1));
+        asked.of(x, 2, "learnt", y -> y.learnt(0, 0));
+        asked.of(x, 2, "count", y -> y.count(0));
+    }
+
+    /** How a question is asked: of this object, with what is due. */
+    private interface Asked {
+        void of(IllTonight x, long want, String what, ToLongFunction<IllTonight> question);
+    }
+
+    private static IllTonight toBeAsked() {
         IllTonight x = knowing(2, 2, 1);
         x.season(0, 1);
+        x.lesson(0, 0, 1, 1);
+        x.gives(0);
+        return x;
+    }
+
+    static void p45_theOthersLeaveIt() {
         for (int status : new int[] {-1, -2, -6, 0}) {
+            IllTonight x = toBeAsked();
             if (status == -1) {
                 x.actor(0, 0, 0, 0);
             } else if (status == -2) {
-                x.drop(0);
+                x.drop(1);
             } else if (status == -6) {
                 x.row();
-            } else {
-                x.ill(0);
             }
             due("status", x.status(), status);
-            told(x, 20, "feed", () -> x.feed(1, 2, 3, 4, 5));
-            told(x, 0, "end", () -> x.end(0));
-            told(x, 0, "clear", x::clear);
-            asks(x, 0, "forgot", x::forgot);
-            asks(x, -1, "fault", x::fault);
-            asks(x, 2, "night", () -> x.night(0));
-            asks(x, 0, "who", () -> x.who(0));
-            asks(x, 3, "changed", x::changed);
-            asks(x, 1, "chain", () -> x.chain(0, -1));
-            asks(x, 0, "nth", () -> x.nth(0, 0));
-            asks(x, -1, "judge", () -> x.judge(0));
-            asks(x, 0, "shut", () -> x.shut(0));
-            asks(x, 2, "closing", () -> x.closing(-1));
-            asks(x, 1, "safe", () -> x.safe(0));
-            asks(x, -1, "unsafe", () -> x.unsafe(0));
-            asks(x, 0, "most", x::most);
-            asks(x, 1000, "missed", () -> x.missed(0));
-            asks(x, 1, "key", () -> x.key(0));
-            asks(x, 0, "odds", () -> x.odds(0));
-            asks(x, 0, "learn", () -> x.learn(0, 0));
-            asks(x, -1, "worth", () -> x.worth(0, 0));
-            asks(x, 2, "week", () -> x.week(0, 1));
-            asks(x, 2, "learnt", () -> x.learnt(0, 0));
-            asks(x, 2, "count", () -> x.count(0));
-            asks(x, 1, "of", () -> x.of(0, 0, 1));
+            ask((y, want, what, question) -> asks(y, want, what, () -> question.applyAsLong(y)), x);
             due("status behind all of them", x.status(), status);
         }
+    }
+
+    static void p45_questionsChangeNothing() {
+        questions((x, want, what, question) -> {
+            IllTonight y = toBeAsked();
+            leaves(y, want, what, () -> question.applyAsLong(y));
+        }, new IllTonight());
+    }
+
+    /** Each question is the first behind a change: what was worked out ahead of it does not stand any more. */
+    static void p45_eachQuestionSeesTheChange() {
+        questions((x, want, what, question) -> {
+            IllTonight y = knowing(2, 2, 1);
+            y.season(0, 1);
+            questions((z, other, name, first) -> first.applyAsLong(z), y);
+            y.terms(0, 2);
+            questions((z, other, name, first) -> first.applyAsLong(z), y);
+            y.lesson(0, 0, 1, 1);
+            y.gives(0);
+            y.terms(0, 1);
+            due(what + ", first behind a change", question.applyAsLong(y), want);
+        }, new IllTonight());
+    }
+
+    static void p45_eachQuestionIsTheFirst() {
+        questions((x, want, what, question) -> due(what + ", first of all", question.applyAsLong(toBeAsked()), want),
+            new IllTonight());
     }
 }
